@@ -28,6 +28,7 @@ public final class LaneMachine {
     private static final int SUM = 14;
     private static final int SLIDE = 15;
     private static final int GATHER = 16;
+    private static final int LOAD = 17;
     private static final int STORE = 18;
     private static final int LOADX = 19;
     private static final int LOADF = 20;
@@ -239,7 +240,7 @@ public final class LaneMachine {
             state = ILLEGAL;
         } else if (what.isVector()) {
             if (queued < QUEUE_PLACES && !mustWaitForQueue(what)) {
-                handOut(what);
+                handOut(what, works[queued]);
             }
         } else if (queued == 0 || !what.needsEmptyQueue()) {
             doScalar(what);
@@ -303,11 +304,7 @@ public final class LaneMachine {
         return false;
     }
 
-    private void handOut(Instruction what) {
-        if (queued < 0 || queued >= QUEUE_PLACES) {
-            return;
-        }
-        Work work = works[queued];
+    private void handOut(Instruction what, Work work) {
         work.take(what, next, setting, scalar(what.a), scalar(what.b));
         int bad = what.unit() == MEMORY_UNIT ? work.firstBad(bound) : NONE;
         if (bad != NONE) {
@@ -317,17 +314,17 @@ public final class LaneMachine {
             work.foresee();
             queued++;
         }
-        boolean isCut = what.op == LOADF && bad > 0;
-        if (bad != NONE && !isCut) {
+        if (bad == NONE) {
+            setting.start = 0;
+            next++;
+        } else if (what.op == LOADF && bad > 0) {
+            setting.length = bad;
+            setting.start = 0;
+            next++;
+        } else {
             setting.start = bad;
             state = TRAPPED;
-            return;
         }
-        if (isCut) {
-            setting.length = bad;
-        }
-        setting.start = 0;
-        next++;
     }
 
     private static final class Instruction {
@@ -356,7 +353,7 @@ public final class LaneMachine {
         }
 
         int unit() {
-            if (op > GATHER) {
+            if (op >= LOAD) {
                 return MEMORY_UNIT;
             }
             return op == TIMES || op >= SUM ? 1 : 0;
@@ -520,7 +517,6 @@ public final class LaneMachine {
             from = setting.start;
             to = setting.length;
             done = 0;
-            doneBefore = 0;
         }
 
         int steps() {
@@ -561,20 +557,20 @@ public final class LaneMachine {
 
         private long readsOf(int step) {
             int i = from + step;
+            return what.op == SUM ? readsOfSum() : maskByte(i) | sourcesOf(i);
+        }
+
+        private long sourcesOf(int i) {
             switch (what.op) {
-                case SUM: return readsOfSum();
-                case PLUSX: return maskByte(i) | span(placeOf(what.a, i), width);
-                case SLIDE: return maskByte(i) | (isInGroup(i + xb) ? span(placeOf(what.a, i + xb), width) : 0);
-                case GATHER: return maskByte(i) | span(placeOf(what.b, i), width)
-                        | span(placeOf(what.a, 0), REGISTER_BYTES * group);
-                case STORE: return maskByte(i) | span(placeOf(what.d, i), width);
-                case LOADX: return maskByte(i) | span(placeOf(what.b, i), width);
-                default: break;
+                case PLUSX: return span(placeOf(what.a, i), width);
+                case SLIDE: return isInGroup(i + xb) ? span(placeOf(what.a, i + xb), width) : 0;
+                case GATHER: return span(placeOf(what.a, 0), REGISTER_BYTES * group) | span(placeOf(what.b, i), width);
+                case STORE: return span(placeOf(what.d, i), width);
+                case LOADX: return span(placeOf(what.b, i), width);
+                case LOAD:
+                case LOADF: return 0;
+                default: return span(placeOf(what.a, i), width) | span(placeOf(what.b, i), width);
             }
-            if (what.unit() == MEMORY_UNIT) {
-                return maskByte(i);
-            }
-            return maskByte(i) | span(placeOf(what.a, i), width) | span(placeOf(what.b, i), width);
         }
 
         private long readsOfSum() {
