@@ -3,6 +3,7 @@ public final class IllegalTest {
     private static final Check CHECK = new Check("IllegalTest");
 
     public static void main(String[] args) {
+        everyInstructionUnderEverySetting();
         registersOfGroupsOfTwo();
         registersOfGroupsOfFour();
         wideNeedsRoom();
@@ -13,6 +14,9 @@ public final class IllegalTest {
         noneThere();
         illegalStaysNextAndTheQueueGoesOn();
         illegalDoesNotWait();
+        noneThereDoesNotWait();
+        illegalWithoutElements();
+        illegalByTheSettingOfThen();
         CHECK.end();
     }
 
@@ -34,6 +38,50 @@ public final class IllegalTest {
     private static void illegal(int setting, int op, int d, int a, int b) {
         CHECK.holds("illegal with setting " + setting + ": " + op + " " + d + " " + a + " " + b,
                 isIllegal(setting, op, d, a, b, false));
+    }
+
+    /** The document's paragraph, sentence by sentence. */
+    private static boolean isDue(int width, int group, int op, int d, int a, int b, boolean masked) {
+        boolean isWide = op == Op.WIDE;
+        int groupOfD = isWide ? 2 * group : op == Op.SUM ? 1 : group;
+        boolean isDAnyRegister = op == Op.LESS || op == Op.SUM;
+        boolean isARegister = op < Op.LOAD;
+        boolean isBRegister = op == Op.LOADX || isARegister && op != Op.PLUSX && op != Op.SLIDE && op != Op.SUM;
+        if (!isDAnyRegister && d % groupOfD != 0 || isARegister && a % group != 0 || isBRegister && b % group != 0) {
+            return true;
+        }
+        if (isWide && (width == 4 || group == 4)) {
+            return true;
+        }
+        if (masked && op != Op.LESS && op != Op.STORE && d == 0) {
+            return true;
+        }
+        if (op == Op.SLIDE && d == a || op == Op.GATHER && (d == a || d == b)) {
+            return true;
+        }
+        return isWide && (a >= d && a < d + groupOfD || b >= d && b < d + groupOfD);
+    }
+
+    private static void everyInstructionUnderEverySetting() {
+        int[] settings = {0, 1, 2, 4, 5, 6, 8, 9, 10};
+        for (int setting : settings) {
+            for (int op = Op.PLUS; op <= Op.LOADF; op++) {
+                for (int which = 0; which < 1024; which++) {
+                    int d = which & 7;
+                    int a = which >> 3 & 7;
+                    int b = which >> 6 & 7;
+                    boolean masked = which >= 512;
+                    Rig rig = new Rig(8).length(setting, 1);
+                    rig.m.put(op, d, a, b, 0, masked);
+                    rig.m.go(0);
+                    rig.m.cycles(3);
+                    boolean isSo = rig.m.about(0) == LaneMachine.ILLEGAL;
+                    boolean isDue = isDue(1 << setting % 4, 1 << setting / 4, op, d, a, b, masked);
+                    CHECK.holds("setting " + setting + ": " + op + " " + d + " " + a + " " + b + " " + masked
+                            + " illegal: " + isDue, isSo == isDue);
+                }
+            }
+        }
     }
 
     private static void registersOfGroupsOfTwo() {
@@ -196,5 +244,33 @@ public final class IllegalTest {
         load.m.go(0);
         load.m.cycles(4);
         CHECK.is("an illegal LOAD does not wait for another", load.m.about(0), LaneMachine.ILLEGAL);
+    }
+
+    private static void noneThereDoesNotWait() {
+        Rig rig = new Rig(1).length(Rig.W1, 8);
+        for (int i = 0; i < 4; i++) {
+            rig.vector(Op.PLUS, 1, 1, 1);
+        }
+        rig.m.go(0);
+        rig.m.cycles(7);
+        CHECK.is("none there behind four in the queue", rig.m.about(0) * 10 + rig.m.about(8), 34);
+        CHECK.is("its number is next", rig.m.about(1), 6);
+    }
+
+    private static void illegalWithoutElements() {
+        Rig rig = new Rig(1).length(Rig.W1, 0).vector(Op.SLIDE, 3, 3, 0).op(Op.HALT).run(0);
+        CHECK.is("illegal also with vl 0", rig.m.about(0) * 10 + rig.m.about(1), 32);
+    }
+
+    /** An instruction becomes illegal by the setting that is there when it is next, and by no other. */
+    private static void illegalByTheSettingOfThen() {
+        Rig rig = new Rig(8).length(Rig.W1 + Rig.G2, 1).length(Rig.W1, 1).vector(Op.PLUS, 3, 5, 7);
+        rig.length(Rig.W1 + Rig.G2, 1);
+        rig.m.put(Op.UNLIKE, 0, 7, 0, 4, false);
+        rig.m.go(0);
+        rig.m.cycles(5);
+        CHECK.is("legal in single registers", rig.m.about(0) * 10 + rig.m.about(8), 1);
+        rig.m.cycles(4);
+        CHECK.is("illegal in groups of two", rig.m.about(0) * 10 + rig.m.about(1), 34);
     }
 }

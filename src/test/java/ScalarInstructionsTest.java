@@ -7,8 +7,13 @@ public final class ScalarInstructionsTest {
 
     public static void main(String[] args) {
         setsAndSums();
+        setTakesAnyInt();
+        sumsWrapBothWays();
         zeroStaysZero();
         unlikeGoesOnElsewhere();
+        unlikeLooksAtAllBits();
+        unlikeToItself();
+        unlikeToTheLast();
         unlikeToNowhere();
         haltStaysNext();
         limitIsCut();
@@ -31,6 +36,34 @@ public final class ScalarInstructionsTest {
         CHECK.is("ADDN wraps", rig.m.scalar(5), Integer.MIN_VALUE);
         CHECK.is("ADDN onto itself", rig.m.scalar(2), -10);
         CHECK.is("SET", rig.m.scalar(1), Integer.MAX_VALUE);
+    }
+
+    private static void setTakesAnyInt() {
+        for (int n : new int[] {Integer.MIN_VALUE, -1, 0, 1, Integer.MAX_VALUE}) {
+            for (int d = 0; d < 8; d++) {
+                Rig rig = new Rig(1).set(d, n).op(Op.HALT).run(0);
+                for (int i = 0; i < 8; i++) {
+                    CHECK.is("x" + i + " after SET x" + d + " = " + n, rig.m.scalar(i), i == d && d != 0 ? n : 0);
+                }
+            }
+        }
+    }
+
+    private static void sumsWrapBothWays() {
+        Rig rig = new Rig(1).set(1, Integer.MIN_VALUE).set(2, -1).set(3, Integer.MAX_VALUE).set(4, 1);
+        rig.m.put(Op.ADD, 5, 1, 2, 0, false);
+        rig.m.put(Op.ADD, 6, 3, 4, 0, false);
+        rig.m.put(Op.ADD, 7, 1, 1, 0, false);
+        rig.m.put(Op.ADDN, 1, 1, 0, -1, false);
+        rig.m.put(Op.ADDN, 2, 2, 0, Integer.MIN_VALUE, false);
+        rig.m.put(Op.ADDN, 3, 3, 0, Integer.MAX_VALUE, false);
+        rig.op(Op.HALT).run(0);
+        CHECK.is("the least + -1", rig.m.scalar(5), Integer.MAX_VALUE);
+        CHECK.is("the most + 1", rig.m.scalar(6), Integer.MIN_VALUE);
+        CHECK.is("the least + the least", rig.m.scalar(7), 0);
+        CHECK.is("ADDN of the least by -1", rig.m.scalar(1), Integer.MAX_VALUE);
+        CHECK.is("ADDN of -1 by the least", rig.m.scalar(2), Integer.MAX_VALUE);
+        CHECK.is("ADDN of the most by the most", rig.m.scalar(3), -2);
     }
 
     private static void zeroStaysZero() {
@@ -66,6 +99,48 @@ public final class ScalarInstructionsTest {
         CHECK.is("unlike ones go on at n", unlike.m.about(1), 0);
         unlike.m.cycles(3);
         CHECK.is("round again", unlike.m.about(1), 0);
+    }
+
+    /** Where an UNLIKE that is instruction 2 goes on. */
+    private static int nextAfterUnlike(int xa, int xb, int n) {
+        Rig rig = new Rig(1).set(1, xa).set(2, xb);
+        rig.m.put(Op.UNLIKE, 0, 1, 2, n, false);
+        rig.m.go(0);
+        rig.m.cycles(3);
+        return rig.m.about(1);
+    }
+
+    private static void unlikeLooksAtAllBits() {
+        for (int bit = 0; bit < 32; bit++) {
+            CHECK.is("0 and bit " + bit, nextAfterUnlike(0, 1 << bit, 7), 7);
+            CHECK.is("bit " + bit + " and itself", nextAfterUnlike(1 << bit, 1 << bit, 7), 3);
+        }
+        CHECK.is("the least and the most", nextAfterUnlike(Integer.MIN_VALUE, Integer.MAX_VALUE, 7), 7);
+        CHECK.is("1 and -1", nextAfterUnlike(1, -1, 7), 7);
+        Rig same = new Rig(1).set(1, 5);
+        same.m.put(Op.UNLIKE, 0, 1, 1, 0, false);
+        same.m.go(0);
+        same.m.cycles(2);
+        CHECK.is("a scalar and itself", same.m.about(1), 2);
+    }
+
+    private static void unlikeToItself() {
+        Rig rig = new Rig(1).set(1, 1);
+        rig.m.put(Op.UNLIKE, 0, 1, 0, 1, false);
+        rig.m.go(0);
+        rig.m.cycles(200);
+        CHECK.is("it runs for ever", rig.m.about(0) * 10 + rig.m.about(1), RUNS * 10 + 1);
+    }
+
+    private static void unlikeToTheLast() {
+        Rig rig = new Rig(1).set(1, 1);
+        rig.m.put(Op.UNLIKE, 0, 1, 0, 39, false);
+        while (rig.here() < 39) {
+            rig.set(2, 2);
+        }
+        rig.op(Op.HALT).run(0);
+        CHECK.is("HALT, the last of 40", rig.m.about(0) * 100 + rig.m.about(1), HALTED * 100 + 39);
+        CHECK.is("nothing between was done", rig.m.scalar(2), 0);
     }
 
     private static void unlikeToNowhere() {
