@@ -24,6 +24,7 @@ public final class StepBytesTest {
         scalarsAreNoRegisters();
         writesOverWhatIsRead();
         readsOfWhatIsRead();
+        everyInstructionAheadCounts();
         maskBytes();
         stepByStep();
         sumReadsAllElements();
@@ -181,6 +182,20 @@ public final class StepBytesTest {
         CHECK.is("LOADX by what the second reads", cycleOfStep(naming(Op.LOADX, Part.B, INDEX, 0), 0), AT_ONCE);
     }
 
+    /** The first, whose steps are in cycles 5 to 12, has something to do with the third; the second has nothing. */
+    private static int behindTwo(int first, int d, int a, int third, int thirdD, int thirdA) {
+        Rig rig = new Rig(1).set(1, 0).length(Rig.W1, 8).vector(first, d, a, 7).vector(Op.STORE, 6, 0, 0);
+        return cycleOfStep(rig.vector(third, thirdD, thirdA, 5).op(Op.HALT), 0);
+    }
+
+    private static void everyInstructionAheadCounts() {
+        CHECK.is("the first writes what the third reads", behindTwo(Op.LESS, 2, 7, Op.TIMES, 4, 2), 13);
+        CHECK.is("the first writes what the third writes", behindTwo(Op.LESS, 2, 7, Op.TIMES, 2, 4), 13);
+        CHECK.is("the first reads what the third writes", behindTwo(Op.GATHER, 4, 2, Op.PLUS, 2, 3), 13);
+        CHECK.is("the first reads what the third reads", behindTwo(Op.GATHER, 4, 2, Op.PLUS, 3, 2), AT_ONCE);
+        CHECK.is("none has to do with the third", behindTwo(Op.LESS, 2, 7, Op.TIMES, 4, 3), AT_ONCE);
+    }
+
     private static void maskBytes() {
         for (int op = Op.PLUS; op <= Op.GATHER; op++) {
             int d = op == Op.WIDE ? 2 : 1;
@@ -232,6 +247,8 @@ public final class StepBytesTest {
         CHECK.is("SLIDE by -8 reads none", slideStep(-8, 7), AT_ONCE + 7);
         CHECK.is("SLIDE by the most reads none", slideStep(Integer.MAX_VALUE, 7), AT_ONCE + 7);
         CHECK.is("SLIDE by the least reads none", slideStep(Integer.MIN_VALUE, 7), AT_ONCE + 7);
+        Rig none = new Rig(1).set(1, 8).length(Rig.W1, 8).vector(Op.LESS, 0, 7, 7).vector(Op.LOAD, 6, 0, 0);
+        CHECK.is("SLIDE of none reads no other byte", cycleOfStep(none.vector(Op.SLIDE, 4, 2, 1).op(Op.HALT), 0), AT_ONCE);
     }
 
     private static void gatherReadsAllOfA() {
