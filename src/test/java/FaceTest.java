@@ -2,6 +2,8 @@ import java.lang.reflect.Constructor;
 import java.lang.reflect.Field;
 import java.lang.reflect.Method;
 import java.lang.reflect.Modifier;
+import java.util.Arrays;
+import java.util.List;
 import java.util.TreeSet;
 
 /** The public face, promise 1 (a new object) and what promises 8 to 12 answer of one. */
@@ -28,24 +30,31 @@ public final class FaceTest {
         TreeSet<String> seen = new TreeSet<>();
         for (Field f : LaneMachine.class.getDeclaredFields()) {
             if (!Modifier.isPrivate(f.getModifiers())) {
-                seen.add(f.getName());
+                seen.add(Modifier.toString(f.getModifiers()) + " " + f.getType() + " " + f.getName());
             }
         }
         for (Method f : LaneMachine.class.getDeclaredMethods()) {
             if (!Modifier.isPrivate(f.getModifiers())) {
-                seen.add(f.getReturnType() + " " + f.getName() + f.getParameterCount());
+                seen.add(Modifier.toString(f.getModifiers()) + " " + f.getReturnType() + " " + f.getName()
+                        + Arrays.toString(f.getParameterTypes()));
             }
         }
         for (Constructor<?> f : LaneMachine.class.getDeclaredConstructors()) {
             if (!Modifier.isPrivate(f.getModifiers())) {
-                seen.add("new" + f.getParameterCount());
+                seen.add(Modifier.toString(f.getModifiers()) + " new" + Arrays.toString(f.getParameterTypes()));
             }
         }
-        TreeSet<String> due = new TreeSet<>(java.util.List.of("NONE", "RUNS", "HALTED", "TRAPPED", "ILLEGAL", "new1",
-                "int put6", "int go1", "int resume0", "int cycles1", "boolean poke2", "boolean limit1",
-                "int scalar1", "int file1", "int memory1", "int about1", "int queue2"));
+        TreeSet<String> due = new TreeSet<>();
+        for (String name : List.of("NONE", "RUNS", "HALTED", "TRAPPED", "ILLEGAL")) {
+            due.add("public static final int " + name);
+        }
+        for (String head : List.of("new[int]", "int put[int, int, int, int, int, boolean]", "int go[int]",
+                "int resume[]", "int cycles[int]", "boolean poke[int, int]", "boolean limit[int]", "int scalar[int]",
+                "int file[int]", "int memory[int]", "int about[int]", "int queue[int, int]")) {
+            due.add("public " + head);
+        }
         CHECK.holds("the face " + seen + " is " + due, seen.equals(due));
-        CHECK.holds("the class is final", Modifier.isFinal(LaneMachine.class.getModifiers()));
+        CHECK.is("the class is public and final", LaneMachine.class.getModifiers(), Modifier.PUBLIC | Modifier.FINAL);
     }
 
     private static void newObject() {
